@@ -628,6 +628,7 @@ public final class LeftArguments {
             return wrongAt;
         }
 
+        /** Notes where the text is wrong; false, so that a reader can hand it on. */
         boolean wrong(int where) {
             wrongAt = where;
             return false;
@@ -654,7 +655,7 @@ public final class LeftArguments {
                 number = number * 10 + sign() - '0';
                 at++;
             }
-            return isDigit(sign()) ? wrongHere() : true;
+            return !isDigit(sign()) || wrongHere();
         }
 
         int number() {
@@ -662,7 +663,7 @@ public final class LeftArguments {
         }
 
         boolean numberWithin(int least, int most) {
-            return within(number, least, most) ? true : wrong(at - 1);
+            return within(number, least, most) || wrong(at - 1);
         }
 
         static boolean isDigit(int sign) {
@@ -1058,6 +1059,7 @@ public final class LeftArguments {
             int answering = room.of(at, last == 0 ? SIDE_OTHER : SIDE_ONE);
             int others = room.othersWith(at);
             if (chosen < 0 || chosen >= LAWS_MAX) {
+                // The document holds what a law gives within bounds, not this.
                 return answering / 2 + others - 1;
             }
             letters[0] = room.of(at, SIZE);
@@ -1176,6 +1178,7 @@ public final class LeftArguments {
         private static final int DAY_CELL = PLACES * FIELDS + 1;
 
         private final int[] cells = new int[CELLS];
+        // For use within one call alone: growths of a day, circles of a crowd.
         private final int[] perBag = new int[PLACES];
         private int fell = 0;
         private int ended = 0;
@@ -1391,7 +1394,7 @@ public final class LeftArguments {
                     || of(one, SIDE_ONE) + of(one, SIDE_OTHER) == of(other, SIDE_ONE) + of(other, SIDE_OTHER);
         }
 
-        /** Bits of the bags that this one and it set off, its own with them. */
+        /** Bits of the bags that set this one off, its own bit with them. */
         int circleOf(int at) {
             int bits = 0;
             for (int other = 0; other < PLACES; other++) {
