@@ -114,16 +114,17 @@ public final class LeftArguments {
     }
 
     public int text(int sort) {
-        if (sort == 0) {
+        if (sort == 0 && officeReader.read() == NONE) {
             return openOffice();
         }
-        return sort == 1 ? addLaw() : NONE;
+        if (sort == 1 && laws.number() < LAWS_MAX && lawReader.read() == NONE) {
+            tape.cut(0);
+            return laws.add(lawReader);
+        }
+        return NONE;
     }
 
     private int openOffice() {
-        if (officeReader.read() != NONE) {
-            return NONE;
-        }
         tape.cut(0);
         office.open(officeReader);
         room.fill(office);
@@ -131,14 +132,6 @@ public final class LeftArguments {
         sightings.forget();
         imageKept = false;
         return office.toldCount();
-    }
-
-    private int addLaw() {
-        if (laws.number() >= LAWS_MAX || lawReader.read() != NONE) {
-            return NONE;
-        }
-        tape.cut(0);
-        return laws.add(lawReader);
     }
 
     public boolean law(int law) {
@@ -635,7 +628,8 @@ public final class LeftArguments {
         }
 
         boolean wrongHere() {
-            return wrong(at);
+            wrongAt = at;
+            return false;
         }
 
         boolean take(int sign) {
@@ -1381,9 +1375,11 @@ public final class LeftArguments {
 
         private int largestOn(int shelf) {
             int largest = NONE;
+            int most = 0;
             for (int at = 0; at < PLACES; at++) {
-                if (has(at) && of(at, SHELF) == shelf && (largest == NONE || of(at, SIZE) > of(largest, SIZE))) {
+                if (has(at) && of(at, SHELF) == shelf && of(at, SIZE) > most) {
                     largest = at;
+                    most = of(at, SIZE);
                 }
             }
             return largest;
