@@ -703,6 +703,9 @@ public final class LeftArguments {
             rulesTold = false;
             bagCount = 0;
             System.arraycopy(RULE_USUAL, 0, rules, 0, RULES);
+            for (int i = 0; i < PLACES; i++) {
+                System.arraycopy(BAG_USUAL, 0, bags, i * TOLD_FIELDS, TOLD_FIELDS);
+            }
             for (int clauses = 0; clauses <= TAPE_MAX; clauses++) {
                 if (!readClause()) {
                     return tape.wrongAt();
@@ -720,43 +723,28 @@ public final class LeftArguments {
             if (sign == 's' && !rulesTold) {
                 rulesTold = true;
                 tape.step();
-                return readRules();
+                return readItems(RULE_LETTERS, RULE_LEAST, RULE_MOST, rules, 0);
             }
             if (sign == 'b' && bagCount < PLACES) {
+                int from = bagCount * TOLD_FIELDS;
                 bagCount++;
                 tape.step();
-                return readBag((bagCount - 1) * TOLD_FIELDS);
+                return readItems(BAG_LETTERS, BAG_LEAST, BAG_MOST, bags, from);
             }
             return tape.wrongHere();
         }
 
-        private boolean readRules() {
+        private boolean readItems(String letters, int[] least, int[] most, int[] into, int from) {
             int met = 0;
-            for (int i = 0; i <= RULES && !atClauseEnd(); i++) {
-                int which = readLetter(RULE_LETTERS, met);
-                if (which < 0 || which >= RULES || !tape.takeNumber(2)
-                        || !tape.numberWithin(RULE_LEAST[which], RULE_MOST[which])) {
+            for (int i = 0; i <= letters.length() && !atClauseEnd(); i++) {
+                int which = readLetter(letters, met);
+                if (which < 0 || which >= least.length || which >= most.length || !tape.takeNumber(2)
+                        || !tape.numberWithin(least[which], most[which])) {
                     return false;
                 }
-                rules[which] = tape.number();
-                met |= 1 << which;
-            }
-            return true;
-        }
-
-        private boolean readBag(int from) {
-            if (from < 0 || from + TOLD_FIELDS > bags.length) {
-                return tape.wrongHere();
-            }
-            System.arraycopy(BAG_USUAL, 0, bags, from, TOLD_FIELDS);
-            int met = 0;
-            for (int i = 0; i <= TOLD_FIELDS && !atClauseEnd(); i++) {
-                int which = readLetter(BAG_LETTERS, met);
-                if (which < 0 || which >= TOLD_FIELDS || !tape.takeNumber(2)
-                        || !tape.numberWithin(BAG_LEAST[which], BAG_MOST[which])) {
-                    return false;
+                if (from >= 0 && from + which < into.length) {
+                    into[from + which] = tape.number();
                 }
-                bags[from + which] = tape.number();
                 met |= 1 << which;
             }
             return true;
