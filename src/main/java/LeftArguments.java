@@ -1041,8 +1041,7 @@ public final class LeftArguments {
             int answering = room.of(at, last == 0 ? SIDE_OTHER : SIDE_ONE);
             int others = room.othersWith(at);
             if (chosen < 0 || chosen >= LAWS_MAX) {
-                // The document holds what a law gives within bounds, not this.
-                return answering / 2 + others - 1;
+                return held(answering / 2 + others - 1, GROWTH_MAX);
             }
             letters[0] = room.of(at, SIZE);
             letters[1] = answering;

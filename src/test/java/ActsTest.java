@@ -4,6 +4,7 @@ public final class ActsTest {
 
     public static void main(String[] args) {
         promise7Bag();
+        growthIsHeldWithoutALaw();
         promise8Load();
         promise10Days();
         daysHush();
@@ -63,8 +64,57 @@ public final class ActsTest {
         y.move(2, 9);
         C.bags(y, 7, 0, -1, 0);
         LeftArguments z = Checks.office("bc9;b;b;b;b;b;b;bc8");
-        C.due("growth without a law is not held", 10, z.bag(0, 7));
-        C.due("growth without a law is not held", 10, z.bag(7, 7));
+        C.due("held at 9 without a law", 9, z.bag(0, 7));
+        C.due("held at 9 without a law", 9, z.bag(7, 7));
+    }
+
+    /** Eight bags on the floor; those in places 1 and 2 would grow by 4 and 7 less 1: 10, held: 9. */
+    private static LeftArguments eightOnTheFloor() {
+        LeftArguments x = Checks.office("sw60;bz1c7;bz1c9;bz1c8;bz1c6;bz1c5;bz1c4;bz1c3;bz1c0");
+        for (int at = 0; at < 8; at++) {
+            C.due("to the floor", 0, x.move(at, 9));
+        }
+        return x;
+    }
+
+    private static void growthIsHeldWithoutALaw() {
+        LeftArguments x = eightOnTheFloor();
+        C.bags(x, 7, 9, 9, 9, 9, 8, 8, 7, 6);
+        C.due("the loudest is the lowest of those held", 0, x.most(3));
+        C.due("large(1, 1)", 10, x.large(1, 1));
+        C.due("large(2, 1)", 10, x.large(2, 1));
+        C.due("odds of 10", 1000000000, x.odds(1, 1, 10, 0));
+        C.due("odds of 11", 0, x.odds(1, 1, 11, 0));
+        C.due("image", 0, x.image());
+        x.days(1);
+        C.bags(x, 0, 10, 10, 10, 10, 9, 9, 8, 7);
+        C.due("log", 73, x.log(0, 2));
+        x.back();
+        // No train comes, and nobody calls.
+        x.trains(0);
+        C.due("a year's day", 1, x.years(1, seedOfNoCaller()));
+        C.bags(x, 0, 10, 10, 10, 10, 9, 9, 8, 7);
+        x.undo();
+        // By a law it is held, too, and again when none holds any more.
+        x.law(Checks.tell(x, "y:a+n", 1));
+        C.bags(x, 7, 9, 9, 9, 9, 9, 9, 9, 7);
+        x.law(-1);
+        C.bags(x, 7, 9, 9, 9, 9, 8, 8, 7, 6);
+        // One bag less, and nothing is to be held: 4 and 6 less 1.
+        x.call(7);
+        C.bags(x, 7, 8, 9, 9, 8, 7, 7, 6);
+    }
+
+    /** A seed whose second draw, of 16, is no place. */
+    private static long seedOfNoCaller() {
+        for (long seed = 0; seed < 1000; seed++) {
+            long first = seed * 6364136223846793005L + 1442695040888963407L;
+            long second = first * 6364136223846793005L + 1442695040888963407L;
+            if ((second >>> 33) % 16 >= 8) {
+                return seed;
+            }
+        }
+        return 0;
     }
 
     private static void promise8Load() {

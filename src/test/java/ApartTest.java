@@ -84,6 +84,9 @@ public final class ApartTest {
         C.due("the last day of these", 99, y.falls(1));
         LeftArguments z = Checks.officeWithLaw("sw20;bz20h1", "y:t=99?1;y:0");
         C.due("not within 99", -1, z.falls(0));
+        // Eight together: 9 (held) and seven times 6 more is 59, just as wide; by 10 the first would fall a day earlier.
+        LeftArguments w = Checks.office("sw59;bz1c9;bz1c0;bz1c0;bz1c0;bz1c0;bz1c0;bz1c0;bz1c0");
+        C.due("growth is held without a law", 2, w.falls(0));
     }
 
     private static void shelved(String text, int row, int number) {
@@ -289,6 +292,10 @@ public final class ApartTest {
         C.due("game(0, 0, 0, 0)", 33, y.game(0, 0, 0, 0));
         C.due("game(0, 2, 1, 0)", 29, y.game(0, 2, 1, 0));
         C.due("game(0, 2, 1, 1)", 31, y.game(0, 2, 1, 1));
+        // Alone it never comes to more than 9 without a law; what it grew by with seven others was held.
+        LeftArguments v = Checks.office("sw60;bz1a9c9;bz1;bz1;bz1;bz1;bz1;bz1;bz1");
+        v.days(1);
+        C.due("game(0, 0, 0, 0)", 30 - 10 - 3 - 3 - 3 + 3, v.game(0, 0, 0, 0));
         // The days it was there and the day go on.
         LeftArguments z = Checks.officeWithLaw("bz9", "y:d=6?1;y:t=5?2");
         z.days(4);

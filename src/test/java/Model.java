@@ -162,11 +162,9 @@ final class Model {
             others += o != null && o != b && o.shelf == b.shelf ? 1 : 0;
         }
         int answering = b.stubborn(1 - b.last);
-        if (holds == NONE) {
-            return answering / 2 + others - 1;
-        }
         int[] letters = {b.size, answering, b.stubborn(b.last), others, b.stay, s.day % 100};
-        return Math.max(-9, Math.min(9, LawText.worth(laws.get(holds), letters)));
+        int free = holds == NONE ? answering / 2 + others - 1 : LawText.worth(laws.get(holds), letters);
+        return Math.max(-9, Math.min(9, free));
     }
 
     private int[] pass(State s) {
