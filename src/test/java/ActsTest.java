@@ -9,6 +9,7 @@ public final class ActsTest {
         promise10Days();
         daysHush();
         daysEndAndFall();
+        smallestFall();
         daysHaveBounds();
         promise11Leave();
         promise12Call();
@@ -195,6 +196,16 @@ public final class ActsTest {
         C.due("fell", 0, w.log(0, 0));
         C.due("ended", 2, w.log(0, 1));
         C.due("sizes", 9, w.log(0, 2));
+    }
+
+    private static void smallestFall() {
+        LeftArguments x = Checks.officeWithLaw("sw5;bz1;bz1;bz1;bz1;bz1;bz1;bz1;bz1", "y:0");
+        C.due("falls", 1, x.falls(2));
+        C.due("does not fall", -1, x.falls(3));
+        x.days(1);
+        C.due("fell", 0b00000111, x.log(0, 0));
+        C.due("load", 5, x.load(0));
+        C.due("load of the floor", 3, x.load(9));
     }
 
     private static void daysHaveBounds() {

@@ -224,6 +224,18 @@ public final class ApartTest {
         x.law(-1);
         x.seen(0, 1, 5, true);
         C.due("side 0 answers first", 2, x.sizes(0, 0));
+        // What was seen of another office is gone, also where something new was seen.
+        LeftArguments y = Checks.office("b;b");
+        for (int i = 0; i < 10; i++) {
+            y.seen(0, 1, 99, true);
+        }
+        C.due("nothing fits", 0, y.sizes(0, -1));
+        Checks.tell(y, "b", 0);
+        C.due("all", 30, y.sizes(0, -1));
+        y.seen(0, 1, 0, true);
+        C.due("all", 30, y.sizes(0, -1));
+        C.due("seen", 2, y.seen(0, 1, 10, true));
+        C.due("10 and more", 21, y.sizes(0, -1));
     }
 
     private static void promise31Ask() {
