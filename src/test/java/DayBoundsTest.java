@@ -1,3 +1,6 @@
+import java.util.List;
+import java.util.function.ToLongFunction;
+
 /** The edges of bags, growth, days, acts by hand and status (part 2), one sentence of the document each. */
 public final class DayBoundsTest {
     private static final Checks C = new Checks();
@@ -36,6 +39,7 @@ public final class DayBoundsTest {
         coinsAreGiven();
         latest40Acts();
         eachActIsOne();
+        eachActIsUndone();
         logIsUndone();
         statusIsNotUndone();
         ofSeveralTheFirst();
@@ -677,6 +681,59 @@ public final class DayBoundsTest {
         x.give(0);
         Checks.tell(x, "y:1", 1);
         C.due("no acts", 20, x.count(9));
+    }
+
+    /** Day 12, 998 coins; 20 (hushed) and 9 on shelf 0, 9 (hushed) on 1, 7 on the floor. */
+    private static LeftArguments busy() {
+        LeftArguments x = onDay("sw30n2f9k99;bz20a9c9;bz9h1;bz7h1l1;bz9", 12);
+        holds(x, "y:z=7?0-9;y:9");
+        for (int i = 0; i < 18; i++) {
+            x.give(50);
+        }
+        x.hush(1);
+        x.move(2, 9);
+        x.hush(0);
+        x.give(1);
+        C.due("coins", 998, x.rule(3));
+        C.due("one falls", 1, x.falls(0));
+        C.due("one ends", 1, x.ends(2));
+        return x;
+    }
+
+    private static void holds(LeftArguments x, String law) {
+        C.due("law " + law, true, x.law(Checks.tell(x, law, 1)));
+    }
+
+    private static void undone(String name, ToLongFunction<LeftArguments> act) {
+        LeftArguments x = busy();
+        List<String> before = Snapshot.now(x);
+        LeftArguments y = busy();
+        int acts = y.count(9);
+        C.due(name + " is not refused", true, act.applyAsLong(y) != -1);
+        C.due(name + " is one more", acts + 1, y.count(9));
+        C.due(name + " changes something", false, before.equals(Snapshot.now(y)));
+        C.due(name + " undone", acts, y.undo());
+        List<String> behind = Snapshot.now(y);
+        for (int i = 0; i < before.size() && i < behind.size(); i++) {
+            C.due(name + " undone: " + behind.get(i) + ", due is " + before.get(i), true,
+                    before.get(i).equals(behind.get(i)));
+        }
+        C.due("rows", before.size(), behind.size());
+    }
+
+    /** What an act changes is as it was when it is undone, whichever act. */
+    private static void eachActIsUndone() {
+        undone("a day", x -> x.days(1));
+        undone("a year's day", x -> x.years(1, 3));
+        undone("left", x -> x.leave(5, 1, 2, 1));
+        undone("called for", x -> x.call(1));
+        undone("called for, hushed", x -> x.call(0));
+        undone("moved", x -> x.move(3, 1));
+        undone("moved to the floor", x -> x.move(1, 9));
+        undone("moved from the floor", x -> x.move(2, 1));
+        undone("hushed", x -> x.hush(3));
+        undone("sold beyond 999", x -> x.sell(0));
+        undone("given", x -> x.give(1));
     }
 
     /** "can be UNDONE one by one (LOG, too)" */

@@ -469,6 +469,8 @@ public final class TextBoundsTest {
 
     /** "The LAW that holds (NONE: none). False: no such one." */
     private static void lawThatHolds() {
+        C.due("law(NONE) without an office", true, new LeftArguments().law(-1));
+        C.due("law(0) without an office", false, new LeftArguments().law(0));
         LeftArguments x = Checks.office("bz8");
         C.due("law(0) of none", false, x.law(0));
         C.due("law(NONE) of none", true, x.law(-1));
