@@ -735,6 +735,7 @@ public final class ApartBoundsTest {
             C.due("shares(" + at + ", 1)", -1, x.shares(at, 1));
         }
         C.due("one alone has all", 999, Checks.office("bz30").shares(0, 999));
+        C.due("the smallest alone has all", 999, Checks.office("bz1").shares(0, 999));
         C.due("none has a bit of 1", 0, x.shares(1, 1));
     }
 
@@ -771,6 +772,7 @@ public final class ApartBoundsTest {
         C.due("loudest", 1, x.most(3));
         holds(x, "y:0-z");
         C.due("loudest of those below 0", 0, x.most(3));
+        C.due("largest, though not loudest", 1, x.most(0));
         holds(x, "y:z*2");
         C.due("loudest of those held at 9", 1, x.most(3));
         x.days(1);

@@ -636,6 +636,11 @@ public final class TextBoundsTest {
         grows("y:z=9?1;y:z=8?2;y:3", 2);
         grows("y:3;y:z=8?2", 3);
         grows("y:!z=8?1;y:z<8|z>8?2", 0);
+        // Nothing of a longer law told earlier stands behind a shorter one.
+        LeftArguments x = Checks.office("bz8");
+        Checks.tell(x, "y:z<8?1;y:z<8?2;y:5", 1);
+        x.law(Checks.tell(x, "y:z<8?1", 1));
+        C.due("the shorter one", 0, x.bag(0, 7));
     }
 
     /** "TRUTHS with | between; TRUTH: UNITS with & between; UNIT: ! UNIT, ( CONDITION ), or SUM, one of = < >, SUM" */
@@ -699,6 +704,7 @@ public final class TextBoundsTest {
         C.due("all sizes", 30, x.sizes(0, -1));
         C.due("told are those of it", -1, x.sizes(1, -1));
         C.due("seen", 1, x.seen(0, 1, 0, true));
+        C.due("all sizes still", 30, x.sizes(0, -1));
         C.due("an office without bags", 0, Checks.tell(x, "s", 0));
         C.due("no bags", 0, x.most(5));
         C.due("day", 1, x.days(1));
