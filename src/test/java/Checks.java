@@ -14,6 +14,14 @@ final class Checks {
         }
     }
 
+    void due(String what, String want, String got) {
+        asked++;
+        if (!got.equals(want)) {
+            wrong++;
+            System.out.println(what + " answered " + got + ", due is " + want);
+        }
+    }
+
     void due(String what, boolean want, boolean got) {
         due(what, want ? 1 : 0, got ? 1 : 0);
     }
